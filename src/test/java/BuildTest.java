@@ -151,6 +151,8 @@ public final class BuildTest {
         PackedImage z = new PackedImage();
         Images.file(z, 0, 'a', one + "xyz");
         Images.file(z, 0, 'b', one + "zyx");
+        Checks.same("TAILS alone do not share", z.build(1), 1 + 2 + 2);
+        Checks.same("nor does PACKING", z.build(4), 1 + 2 + 1 + 4);
         Checks.same("whole blocks of TAILED files are shared", z.build(3), 1 + 2 + 1);
         z.mount();
         Checks.sameText("b's data", Images.data(z, z.find(0, 'b')), one + "zyx");

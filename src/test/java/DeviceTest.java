@@ -47,6 +47,9 @@ public final class DeviceTest {
         PackedImage x = new PackedImage();
         x.seal();
         Checks.sameText("the check of 14 times 0", Images.bytes(x, 14, 2), "169 106");
+        Images.lay(x, 0, 27, 115);
+        x.seal();
+        Checks.sameText("a check that is 32768 on the way", Images.bytes(x, 14, 2), "167 252");
         Images.lay(x, 0, '1', '2', '3', '4', '5', '6', '7', '8', '9');
         x.poke(16, 4);
         x.seal();

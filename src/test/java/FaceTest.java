@@ -15,7 +15,8 @@ public final class FaceTest {
 
     public static void main(String[] args) {
         Class<?> face = PackedImage.class;
-        Checks.holds("public and final", Modifier.isPublic(face.getModifiers()) && Modifier.isFinal(face.getModifiers()));
+        Checks.holds("public", Modifier.isPublic(face.getModifiers()));
+        Checks.holds("final", Modifier.isFinal(face.getModifiers()));
         TreeSet<String> seen = new TreeSet<>();
         TreeSet<String> names = new TreeSet<>();
         for (Method method : face.getDeclaredMethods()) {
@@ -27,7 +28,8 @@ public final class FaceTest {
         Checks.sameText("the public methods", seen.toString(), new TreeSet<>(Arrays.asList(FACE)).toString());
         for (Method method : face.getDeclaredMethods()) {
             int modifiers = method.getModifiers();
-            Checks.holds(method + " is public or private", Modifier.isPublic(modifiers) || Modifier.isPrivate(modifiers));
+            Checks.holds(method + " is public or private",
+                    Modifier.isPublic(modifiers) || Modifier.isPrivate(modifiers));
             Checks.holds(method + " has a name of its own",
                     Modifier.isPublic(modifiers) || !names.contains(method.getName()));
         }

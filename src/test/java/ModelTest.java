@@ -1,3 +1,5 @@
+import java.util.ArrayList;
+import java.util.List;
 import java.util.Random;
 
 /** All promises: random runs of calls, the same ones each time, answered as Model answers them. */
@@ -10,11 +12,13 @@ public final class ModelTest {
     private final PackedImage program = new PackedImage();
     private final Model model = new Model();
     private final int seed;
-    private int nodes = 1;
+    private final List<Integer> kinds = new ArrayList<>(List.of(0));
+    private int letters;
 
     private ModelTest(int seed) {
         this.seed = seed;
         random = new Random(seed);
+        letters = random.nextBoolean() ? 5 : 26;
     }
 
     public static void main(String[] args) {
@@ -27,7 +31,7 @@ public final class ModelTest {
     private void run() {
         int rounds = 1 + random.nextInt(4);
         for (int round = 0; round < rounds; round++) {
-            grow(random.nextInt(20));
+            grow(random.nextInt(40));
             build();
             int spoilings = random.nextInt(6);
             for (int i = 0; i <= spoilings; i++) {
@@ -41,80 +45,140 @@ public final class ModelTest {
         Checks.sameText("seed " + seed + ": " + call, Checks.outcome(ofProgram), Checks.outcome(ofModel));
     }
 
-    private int some(int below) {
-        return random.nextInt(40) == 0 ? random.nextInt() : random.nextInt(below + 1) - random.nextInt(50) / 49;
+    private boolean seldom() {
+        return random.nextInt(25) == 0;
+    }
+
+    /** 0 .. most, seldom -1, one more, or anything. */
+    private int some(int most) {
+        if (seldom()) {
+            return List.of(-1, most + 1, random.nextInt()).get(random.nextInt(3));
+        }
+        return random.nextInt(most + 1);
     }
 
     private char name() {
-        int letter = 'a' + random.nextInt(random.nextBoolean() ? 6 : 26);
-        return (char) (random.nextInt(30) == 0 ? random.nextInt(400) : letter);
+        return (char) (seldom() ? random.nextInt(400) : 'a' + random.nextInt(letters));
+    }
+
+    private int nodeOf(int kind) {
+        List<Integer> fitting = new ArrayList<>();
+        for (int node = 0; node < kinds.size(); node++) {
+            if (kinds.get(node) == kind) {
+                fitting.add(node);
+            }
+        }
+        return fitting.isEmpty() || seldom() ? some(kinds.size()) : fitting.get(random.nextInt(fitting.size()));
     }
 
     private void grow(int steps) {
         for (int i = 0; i < steps; i++) {
-            int a = some(nodes);
-            char name = name();
-            int directory = random.nextInt(3) == 0 ? some(nodes) : 0;
-            switch (random.nextInt(6)) {
+            switch (random.nextInt(8)) {
                 case 0:
                 case 1:
-                    int kind = random.nextInt(3) == 0 ? some(2) : 1;
-                    both("create(" + kind + ", " + directory + ", " + name + ")",
-                            () -> program.create(kind, directory, name), () -> model.create(kind, directory, name));
-                    nodes = Math.min(nodes + 1, 16);
-                    break;
                 case 2:
-                    both("link(" + a + ", " + directory + ", " + name + ")", () -> {
-                        program.link(a, directory, name);
-                        return "";
-                    }, () -> {
-                        model.link(a, directory, name);
-                        return "";
-                    });
+                    create();
                     break;
                 case 3:
-                    both("unlink(" + directory + ", " + name + ")", () -> {
-                        program.unlink(directory, name);
-                        return "";
-                    }, () -> {
-                        model.unlink(directory, name);
-                        return "";
-                    });
+                    link();
+                    break;
+                case 4:
+                    unlink();
+                    break;
+                case 5:
+                    appendAll(nodeOf(2), path(1 + random.nextInt(3)));
                     break;
                 default:
-                    appendAll(a, content());
+                    appendAll(nodeOf(1), content());
                     break;
             }
         }
     }
 
+    private void create() {
+        int kind = some(2);
+        int directory = nodeOf(0);
+        char name = name();
+        String made = Checks.outcome(() -> model.create(kind, directory, name));
+        Checks.sameText("seed " + seed + ": create(" + kind + ", " + directory + ", " + (int) name + ")",
+                Checks.outcome(() -> program.create(kind, directory, name)), made);
+        if (!made.startsWith("throws")) {
+            kinds.add(kind);
+        }
+    }
+
+    private void link() {
+        int file = nodeOf(1);
+        int directory = nodeOf(0);
+        char name = name();
+        both("link(" + file + ", " + directory + ", " + (int) name + ")", () -> {
+            program.link(file, directory, name);
+            return "";
+        }, () -> {
+            model.link(file, directory, name);
+            return "";
+        });
+    }
+
+    private void unlink() {
+        int directory = nodeOf(0);
+        char name = name();
+        both("unlink(" + directory + ", " + (int) name + ")", () -> {
+            program.unlink(directory, name);
+            return "";
+        }, () -> {
+            model.unlink(directory, name);
+            return "";
+        });
+    }
+
     private String content() {
         StringBuilder text = new StringBuilder();
-        int pieces = random.nextInt(7);
+        int pieces = random.nextInt(12);
         for (int i = 0; i < pieces; i++) {
-            if (random.nextInt(4) == 0) {
-                text.append((char) random.nextInt(random.nextBoolean() ? 256 : 3));
-            } else {
-                text.append(PIECES[random.nextInt(PIECES.length)]);
+            switch (random.nextInt(6)) {
+                case 0:
+                    text.append((char) random.nextInt(256));
+                    break;
+                case 1:
+                    text.append((char) random.nextInt(3));
+                    break;
+                case 2:
+                    text.append(Images.unlike(random.nextInt(16), random.nextInt(200)));
+                    break;
+                default:
+                    text.append(PIECES[random.nextInt(PIECES.length)]);
+                    break;
             }
+        }
+        return text.toString();
+    }
+
+    private String path(int size) {
+        StringBuilder text = new StringBuilder();
+        for (int i = 0; i < size; i++) {
+            text.append(name());
         }
         return text.toString();
     }
 
     private void appendAll(int node, String content) {
         for (int i = 0; i < content.length(); i++) {
-            int b = content.charAt(i);
-            both("append(" + node + ", " + b + ")", () -> program.append(node, b), () -> model.append(node, b));
+            appendOne(node, content.charAt(i));
         }
-        int b = some(256);
+        if (seldom()) {
+            appendOne(node, some(255));
+        }
+    }
+
+    private void appendOne(int node, int b) {
         both("append(" + node + ", " + b + ")", () -> program.append(node, b), () -> model.append(node, b));
     }
 
     private void build() {
-        int flags = random.nextInt(20) == 0 ? some(9) : random.nextInt(8);
+        int flags = some(7);
         both("build(" + flags + ")", () -> program.build(flags), () -> model.build(flags));
-        both("all bytes after build(" + flags + ")", () -> Images.bytes(program, 0, 1024),
-                () -> bytesOfModel(1024));
+        both("all bytes after build(" + flags + ")", () -> Images.bytes(program, 0, 1024), () -> bytesOfModel(1024));
     }
 
     private String bytesOfModel(int count) {
@@ -125,33 +189,47 @@ public final class ModelTest {
         return text.toString();
     }
 
+    /** An inode of that kind and layout, if a few tries find one. */
+    private int inodeWith(int what, int due) {
+        for (int i = 0; i < 30; i++) {
+            int inode = random.nextInt(model.peek(3) + 1);
+            if (Checks.outcome(() -> model.stat(inode, what)).equals(String.valueOf(due))) {
+                return inode;
+            }
+        }
+        return some(model.peek(3));
+    }
+
     private void use(int steps) {
-        if (random.nextInt(30) != 0) {
+        if (!seldom()) {
             both("mount()", () -> program.mount(), () -> model.mount());
         }
         for (int i = 0; i < steps; i++) {
-            int inode = some(model.peek(3) + 1);
-            int at = some(random.nextBoolean() ? 80 : 255);
-            switch (random.nextInt(7)) {
+            switch (random.nextInt(8)) {
                 case 0:
-                    int what = some(6);
-                    both("stat(" + inode + ", " + what + ")", () -> program.stat(inode, what), () -> model.stat(inode, what));
+                    int inode = some(model.peek(3));
+                    int what = some(5);
+                    both("stat(" + inode + ", " + what + ")",
+                            () -> program.stat(inode, what), () -> model.stat(inode, what));
                     break;
                 case 1:
-                case 2:
-                    both("read(" + inode + ", " + at + ")", () -> program.read(inode, at), () -> model.read(inode, at));
+                    read(inodeWith(5, 0));
                     break;
+                case 2:
                 case 3:
-                    int directory = random.nextBoolean() ? 0 : inode;
-                    char name = name();
-                    both("find(" + directory + ", " + name + ")",
-                            () -> program.find(directory, name), () -> model.find(directory, name));
+                    read(inodeWith(1, 2));
                     break;
                 case 4:
-                    int path = path();
-                    both("resolve(" + path + ")", () -> program.resolve(path), () -> model.resolve(path));
+                    int directory = inodeWith(0, 0);
+                    char name = name();
+                    both("find(" + directory + ", " + (int) name + ")",
+                            () -> program.find(directory, name), () -> model.find(directory, name));
                     break;
                 case 5:
+                    int path = seldom() ? random.nextInt() : ResolveTest.path(path(random.nextInt(5)));
+                    both("resolve(" + path + ")", () -> program.resolve(path), () -> model.resolve(path));
+                    break;
+                case 6:
                     both("check()", () -> program.check(), () -> model.check());
                     break;
                 default:
@@ -162,20 +240,16 @@ public final class ModelTest {
         }
     }
 
-    private int path() {
-        int path = 0;
-        int letters = random.nextInt(5);
-        for (int i = 0; i < letters; i++) {
-            path = path << 8 | name() & 255;
-        }
-        return random.nextInt(40) == 0 ? random.nextInt() : path;
+    private void read(int inode) {
+        String size = Checks.outcome(() -> model.stat(inode, 2));
+        int at = size.startsWith("throws") || size.equals("0") ? some(255) : some(Integer.parseInt(size) - 1);
+        both("read(" + inode + ", " + at + ")", () -> program.read(inode, at), () -> model.read(inode, at));
     }
 
     private void spoil() {
         int pokes = 1 + random.nextInt(3);
         for (int i = 0; i < pokes; i++) {
-            int slots = Math.max(1, model.peek(3));
-            int at = place(slots);
+            int at = place(Math.max(1, model.peek(3)));
             int flipped = model.peek(Math.floorMod(at, 1024)) ^ 1 << random.nextInt(8);
             int b = random.nextInt(3) == 0 ? flipped : some(random.nextInt(4) == 0 ? 400 : 24);
             both("poke(" + at + ", " + b + ")", () -> {
@@ -193,16 +267,17 @@ public final class ModelTest {
         both("block 0", () -> Images.block(program, 0), () -> bytesOfModel(16));
     }
 
-    /** Mostly in the slots and the first data behind them; seldom in block 0, which ends all. */
+    /** Mostly in the slots and the data behind them; seldom in block 0, where most of it ends all. */
     private int place(int slots) {
         switch (random.nextInt(8)) {
             case 0:
-                return random.nextInt(4) == 0 ? random.nextInt(16) : 3 + random.nextInt(2);
+                return random.nextInt(8) == 0 ? random.nextInt(16) : 3 + random.nextInt(2);
             case 1:
             case 2:
-                return 16 + 8 * slots + random.nextInt(160);
             case 3:
-                return some(1024);
+                return 16 + 8 * slots + random.nextInt(320);
+            case 4:
+                return some(1023);
             default:
                 return 16 + 8 * random.nextInt(slots) + random.nextInt(random.nextBoolean() ? 3 : 8);
         }

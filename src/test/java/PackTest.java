@@ -11,6 +11,7 @@ public final class PackTest {
         clustersStandAlone();
         onlyFiles();
         packedBeforeTailed();
+        onlyWithItsFlag();
         sharedClusters();
         Checks.end();
     }
@@ -121,6 +122,16 @@ public final class PackTest {
         x.mount();
         Checks.same("PACKED", x.stat(x.find(0, 'f'), 1), 2);
         Checks.same("TAILED", x.stat(x.find(0, 'g'), 1), 1);
+    }
+
+    private static void onlyWithItsFlag() {
+        PackedImage x = new PackedImage();
+        Images.file(x, 0, 'f', "a".repeat(40));
+        for (int flags = 0; flags < 8; flags++) {
+            x.build(flags);
+            x.mount();
+            Checks.same("PACKED with flags " + flags, x.stat(1, 1) == 2 ? 1 : 0, flags / 4);
+        }
     }
 
     private static void sharedClusters() {

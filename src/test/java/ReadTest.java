@@ -61,6 +61,8 @@ public final class ReadTest {
         PackedImage x = new PackedImage();
         Images.lay(x, 16, 1 | 1 << 1 | 2 << 3, size, 2, 1, 1, size);
         Images.lay(x, 32, bytes);
+        // What a token, a literal or D would find behind the block is right by itself.
+        Images.lay(x, 48, 1, 1, 1, 1, 1, 1, 1, 1, 1, 1, 1, 1, 1, 1, 1, 1);
         Images.header(x, 2, 4);
         x.mount();
         return x;
@@ -102,10 +104,16 @@ public final class ReadTest {
     private static void badClusters() {
         bad("a token 0", 1, 0);
         bad("a token 0 later", 3, 0x20, 'a', 'b', 0);
+        bad("a token 0 with more behind it", 3, 0x20, 'a', 'b', 0, 0x10, 'c');
         bad("D is 0", 4, 0x11, 'a', 0);
         bad("D is more than the bytes there", 4, 0x11, 'a', 2);
+        bad("D is 0, with more behind it", 4, 0x11, 'a', 0, 0x30, 'b', 'c', 'd');
         bad("a match at the beginning", 3, 0x01, 1);
         bad("a literal behind the block", 16, 0xE0, 1, 2, 3, 4, 5, 6, 7, 8, 9, 10, 11, 12, 13, 14, 0x20);
+        bad("a literal behind the block, of a token with a match", 16,
+                0xD0, 1, 2, 3, 4, 5, 6, 7, 8, 9, 10, 11, 12, 13, 0x21, 1);
+        bad("a literal behind the block, with what could be a token before it", 15,
+                0xC0, 1, 2, 3, 4, 5, 6, 7, 8, 9, 10, 11, 12, 0x30, 0x01, 1);
         bad("a token behind the block", 16, 0xF0, 1, 2, 3, 4, 5, 6, 7, 8, 9, 10, 11, 12, 13, 14, 15);
         bad("D behind the block", 16, 0xF1, 1, 2, 3, 4, 5, 6, 7, 8, 9, 10, 11, 12, 13, 14, 15);
         bad("a token of a match in the last byte", 15,

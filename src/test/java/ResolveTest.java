@@ -47,6 +47,7 @@ public final class ResolveTest {
         Images.link(x, 0, 'n', "");
         Images.link(x, 0, 'o', "mmmm");
         Images.link(x, a, 'p', "ml");
+        Images.link(x, 0, 'q', "nnmf");
         x.build(1);
         x.mount();
         int file = x.find(x.find(0, 'a'), 'f');
@@ -54,6 +55,7 @@ public final class ResolveTest {
         Checks.same("a link on the way", x.resolve(path("mf")), file);
         Checks.same("two links", x.resolve(path("ml")), file);
         Checks.same("links in a link's path", x.resolve(path("mp")), file);
+        Checks.same("a path of four letters", x.resolve(path("q")), file);
         Checks.same("an empty path is the root", x.resolve(path("n")), 0);
         Checks.same("and goes on from there", x.resolve(path("nnnm")), x.find(0, 'a'));
         Checks.same("a name that is not found in a link's path", x.resolve(path("o")), -1);

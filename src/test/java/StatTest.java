@@ -102,6 +102,12 @@ public final class StatTest {
         x.poke(20, 12);
         x.mount();
         Checks.same("12 clusters", x.stat(0, 5), 1);
+        Images.lay(x, 32, 12);
+        x.poke(17, 12);
+        Images.header(x, 3, 20);
+        Images.lay(x, 18, 3);
+        x.mount();
+        Checks.same("12 clusters, with a right end behind the inode", x.stat(0, 5), 1);
         x.poke(20, 255);
         x.mount();
         Checks.same("255 clusters", x.stat(0, 5), 1);
