@@ -1,21 +1,54 @@
 /** Counts what is not as due in one test program, and ends it. */
 final class Checks {
+    private static int tests = 0;
     private static int done = 0;
     private static int wrong = 0;
+    private static String told = "";
 
     /** A call of the program, with or without an answer. */
     interface Call {
         Object make();
     }
 
+    /** A call of the program that answers nothing. */
+    interface Deed {
+        void make();
+    }
+
     private Checks() {
+    }
+
+    /** A test of its own, for a sentence of the document: if it breaks off, those behind it go on all the same. */
+    static void test(String sentence, Deed body) {
+        tests++;
+        told = "\"" + sentence + "\": ";
+        try {
+            body.make();
+        } catch (RuntimeException e) {
+            done++;
+            wrong("it breaks off with " + e + " at " + placeOf(e));
+        }
+        told = "";
+    }
+
+    private static String placeOf(RuntimeException e) {
+        for (StackTraceElement place : e.getStackTrace()) {
+            if (place.getClassName().endsWith("Test")) {
+                return place.toString();
+            }
+        }
+        return "no place of a test";
+    }
+
+    private static void wrong(String what) {
+        wrong++;
+        System.out.println(told + what);
     }
 
     static void same(String what, long got, long due) {
         done++;
         if (got != due) {
-            wrong++;
-            System.out.println(what + " is " + got + ", due is " + due);
+            wrong(what + " is " + got + ", due is " + due);
         }
     }
 
@@ -28,8 +61,7 @@ final class Checks {
         done++;
         String got = outcome(call);
         if (!got.equals("throws." + due.getSimpleName())) {
-            wrong++;
-            System.out.println(what + " answers " + got + ", due is throws." + due.getSimpleName());
+            wrong(what + " answers " + got + ", due is throws." + due.getSimpleName());
         }
     }
 
@@ -49,6 +81,14 @@ final class Checks {
         throwing(what, UnsupportedOperationException.class, call);
     }
 
+    /** A call without an answer, as one with an answer. */
+    static Call of(Deed deed) {
+        return () -> {
+            deed.make();
+            return "nothing";
+        };
+    }
+
     static String outcome(Call call) {
         try {
             return String.valueOf(call.make());
@@ -60,13 +100,12 @@ final class Checks {
     static void sameText(String what, String got, String due) {
         done++;
         if (!got.equals(due)) {
-            wrong++;
-            System.out.println(what + " is " + got + ", due is " + due);
+            wrong(what + " is " + got + ", due is " + due);
         }
     }
 
     static void end() {
-        System.out.println(done + " looked at, " + wrong + " wrong");
+        System.out.println((tests == 0 ? "" : tests + " tests, ") + done + " looked at, " + wrong + " wrong");
         if (wrong != 0 || done == 0) {
             System.exit(1);
         }

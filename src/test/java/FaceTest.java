@@ -40,7 +40,8 @@ public final class FaceTest {
             Checks.same("parameters of the constructor", constructor.getParameterCount(), 0);
         }
         for (Class<?> inside : face.getDeclaredClasses()) {
-            Checks.holds(inside + " is static", Modifier.isStatic(inside.getModifiers()));
+            Checks.holds(inside + " is private or package-visible",
+                    !Modifier.isPublic(inside.getModifiers()) && !Modifier.isProtected(inside.getModifiers()));
             for (Field field : inside.getDeclaredFields()) {
                 Checks.holds(field + " is no static state",
                         !Modifier.isStatic(field.getModifiers()) || Modifier.isFinal(field.getModifiers()));

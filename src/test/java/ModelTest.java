@@ -2,9 +2,10 @@ import java.util.ArrayList;
 import java.util.List;
 import java.util.Random;
 
-/** All promises: random runs of calls, the same ones each time, answered as Model answers them. */
+/** All promises: random runs of at most 512 calls, the same ones each time, answered as Model answers them. */
 public final class ModelTest {
-    private static final int RUNS = Integer.getInteger("runs", 1500);
+    private static final int RUNS = Integer.getInteger("runs", 2500);
+    private static final int MOST_CALLS = 512;
     private static final String[] PIECES = {"aaaaaaaaaaaaaaaa", "same block here!", "abc", "ab", "xyzxyz", "q",
         "0123456789abcdef", "aab", "\0\0\0\0", "zyxwvutsrqponmlk"};
 
@@ -13,7 +14,8 @@ public final class ModelTest {
     private final Model model = new Model();
     private final int seed;
     private final List<Integer> kinds = new ArrayList<>(List.of(0));
-    private int letters;
+    private final int letters;
+    private int calls = 0;
 
     private ModelTest(int seed) {
         this.seed = seed;
@@ -29,20 +31,29 @@ public final class ModelTest {
     }
 
     private void run() {
-        int rounds = 1 + random.nextInt(4);
-        for (int round = 0; round < rounds; round++) {
-            grow(random.nextInt(40));
+        if (random.nextInt(10) == 0) {
+            widen();
+        }
+        for (int round = 0; round < 4 && calls < MOST_CALLS; round++) {
+            grow(random.nextInt(20));
             build();
             int spoilings = random.nextInt(6);
             for (int i = 0; i <= spoilings; i++) {
-                use(10 + random.nextInt(40));
+                use(6 + random.nextInt(20));
                 spoil();
             }
         }
     }
 
-    private void both(String call, Checks.Call ofProgram, Checks.Call ofModel) {
-        Checks.sameText("seed " + seed + ": " + call, Checks.outcome(ofProgram), Checks.outcome(ofModel));
+    /** What an object answers behind its last call is free. */
+    private String both(String call, Checks.Call ofProgram, Checks.Call ofModel) {
+        if (calls == MOST_CALLS) {
+            return "throws nothing, since it is not made";
+        }
+        calls++;
+        String due = Checks.outcome(ofModel);
+        Checks.sameText("seed " + seed + ", call " + calls + ": " + call, Checks.outcome(ofProgram), due);
+        return due;
     }
 
     private boolean seldom() {
@@ -71,19 +82,33 @@ public final class ModelTest {
         return fitting.isEmpty() || seldom() ? some(kinds.size()) : fitting.get(random.nextInt(fitting.size()));
     }
 
+    /** Directories with many entries are what takes the most blocks for the fewest calls. */
+    private void widen() {
+        create(1, 0, 'z');
+        int directories = 8 + random.nextInt(6);
+        for (int i = 0; i < directories; i++) {
+            create(0, 0, (char) ('a' + i));
+            int entries = 15 + random.nextInt(12);
+            int shift = random.nextInt(3);
+            for (int entry = 0; entry < entries; entry++) {
+                link(1, kinds.size() - 1, (char) ('a' + (entry + shift) % 26));
+            }
+        }
+    }
+
     private void grow(int steps) {
         for (int i = 0; i < steps; i++) {
             switch (random.nextInt(8)) {
                 case 0:
                 case 1:
                 case 2:
-                    create();
+                    create(some(2), nodeOf(0), name());
                     break;
                 case 3:
-                    link();
+                    link(nodeOf(1), nodeOf(0), name());
                     break;
                 case 4:
-                    unlink();
+                    unlink(nodeOf(0), name());
                     break;
                 case 5:
                     appendAll(nodeOf(2), path(1 + random.nextInt(3)));
@@ -95,46 +120,28 @@ public final class ModelTest {
         }
     }
 
-    private void create() {
-        int kind = some(2);
-        int directory = nodeOf(0);
-        char name = name();
-        String made = Checks.outcome(() -> model.create(kind, directory, name));
-        Checks.sameText("seed " + seed + ": create(" + kind + ", " + directory + ", " + (int) name + ")",
-                Checks.outcome(() -> program.create(kind, directory, name)), made);
+    private void create(int kind, int directory, char name) {
+        String made = both("create(" + kind + ", " + directory + ", " + (int) name + ")",
+                () -> program.create(kind, directory, name), () -> model.create(kind, directory, name));
         if (!made.startsWith("throws")) {
             kinds.add(kind);
         }
     }
 
-    private void link() {
-        int file = nodeOf(1);
-        int directory = nodeOf(0);
-        char name = name();
-        both("link(" + file + ", " + directory + ", " + (int) name + ")", () -> {
-            program.link(file, directory, name);
-            return "";
-        }, () -> {
-            model.link(file, directory, name);
-            return "";
-        });
+    private void link(int file, int directory, char name) {
+        both("link(" + file + ", " + directory + ", " + (int) name + ")",
+                Checks.of(() -> program.link(file, directory, name)),
+                Checks.of(() -> model.link(file, directory, name)));
     }
 
-    private void unlink() {
-        int directory = nodeOf(0);
-        char name = name();
-        both("unlink(" + directory + ", " + (int) name + ")", () -> {
-            program.unlink(directory, name);
-            return "";
-        }, () -> {
-            model.unlink(directory, name);
-            return "";
-        });
+    private void unlink(int directory, char name) {
+        both("unlink(" + directory + ", " + (int) name + ")",
+                Checks.of(() -> program.unlink(directory, name)), Checks.of(() -> model.unlink(directory, name)));
     }
 
     private String content() {
         StringBuilder text = new StringBuilder();
-        int pieces = random.nextInt(12);
+        int pieces = random.nextInt(8);
         for (int i = 0; i < pieces; i++) {
             switch (random.nextInt(6)) {
                 case 0:
@@ -164,29 +171,36 @@ public final class ModelTest {
 
     private void appendAll(int node, String content) {
         for (int i = 0; i < content.length(); i++) {
-            appendOne(node, content.charAt(i));
+            String made = append(node, content.charAt(i));
+            if (made.startsWith("throws")) {
+                return;
+            }
         }
         if (seldom()) {
-            appendOne(node, some(255));
+            append(node, some(255));
         }
     }
 
-    private void appendOne(int node, int b) {
-        both("append(" + node + ", " + b + ")", () -> program.append(node, b), () -> model.append(node, b));
+    private String append(int node, int b) {
+        return both("append(" + node + ", " + b + ")", () -> program.append(node, b), () -> model.append(node, b));
     }
 
     private void build() {
         int flags = some(7);
         both("build(" + flags + ")", () -> program.build(flags), () -> model.build(flags));
-        both("all bytes after build(" + flags + ")", () -> Images.bytes(program, 0, 1024), () -> bytesOfModel(1024));
+        if (random.nextInt(8) == 0) {
+            look(random.nextInt(1024), MOST_CALLS);
+        } else {
+            look(14, 2 + random.nextInt(40));
+            look(random.nextInt(16 * Math.max(1, model.peek(4))), 10);
+        }
     }
 
-    private String bytesOfModel(int count) {
-        StringBuilder text = new StringBuilder();
-        for (int at = 0; at < count; at++) {
-            text.append(at == 0 ? "" : " ").append(model.peek(at));
+    private void look(int from, int count) {
+        for (int i = 0; i < count && calls < MOST_CALLS; i++) {
+            int at = (from + i) % 1024;
+            both("peek(" + at + ")", () -> program.peek(at), () -> model.peek(at));
         }
-        return text.toString();
     }
 
     /** An inode of that kind and layout, if a few tries find one. */
@@ -226,7 +240,7 @@ public final class ModelTest {
                             () -> program.find(directory, name), () -> model.find(directory, name));
                     break;
                 case 5:
-                    int path = seldom() ? random.nextInt() : ResolveTest.path(path(random.nextInt(5)));
+                    int path = seldom() ? random.nextInt() : Images.path(path(random.nextInt(5)));
                     both("resolve(" + path + ")", () -> program.resolve(path), () -> model.resolve(path));
                     break;
                 case 6:
@@ -252,19 +266,13 @@ public final class ModelTest {
             int at = place(Math.max(1, model.peek(3)));
             int flipped = model.peek(Math.floorMod(at, 1024)) ^ 1 << random.nextInt(8);
             int b = random.nextInt(3) == 0 ? flipped : some(random.nextInt(4) == 0 ? 400 : 24);
-            both("poke(" + at + ", " + b + ")", () -> {
-                program.poke(at, b);
-                return "";
-            }, () -> {
-                model.poke(at, b);
-                return "";
-            });
+            both("poke(" + at + ", " + b + ")",
+                    Checks.of(() -> program.poke(at, b)), Checks.of(() -> model.poke(at, b)));
         }
         if (random.nextInt(8) != 0) {
-            program.seal();
-            model.seal();
+            both("seal()", Checks.of(() -> program.seal()), Checks.of(() -> model.seal()));
+            look(14, 2);
         }
-        both("block 0", () -> Images.block(program, 0), () -> bytesOfModel(16));
     }
 
     /** Mostly in the slots and the data behind them; seldom in block 0, where most of it ends all. */

@@ -1,11 +1,31 @@
-/** Promise 12, and which clusters are bad. */
+/** Promise 12. */
 public final class ReadTest {
     public static void main(String[] args) {
-        layouts();
-        allKinds();
-        wrong();
-        goodClusters();
-        badClusters();
+        Checks.test("a byte of its data: all layouts", ReadTest::layouts);
+        Checks.test("a byte of its data: of a directory", ReadTest::ofDirectory);
+        Checks.test("a byte of its data: of a link", ReadTest::ofLink);
+        Checks.test("a byte of its data: the last one of a block and the first one of the next", ReadTest::acrossBlocks);
+        Checks.test("a byte of its data: the last one of a block and the first one of the tail", ReadTest::acrossTail);
+        Checks.test("a byte of its data: the last one of a cluster and the first one of the next",
+                ReadTest::acrossClusters);
+        Checks.test("a byte of its data: 11 clusters", ReadTest::elevenClusters);
+        Checks.test("a byte of its data: byte 254", ReadTest::largest);
+        Checks.test("a byte of its data: the last byte of the device", ReadTest::lastOfDevice);
+        Checks.test("a byte of its data: a TAILED directory and link", ReadTest::tailsOfAllKinds);
+        Checks.test("if nothing is mounted", ReadTest::notMounted);
+        Checks.test("if there is no such inode", ReadTest::noInode);
+        Checks.test("if there is no such inode: the second slot of a long one", ReadTest::secondSlot);
+        Checks.test("if it is bad", ReadTest::badInode);
+        Checks.test("if there is no such byte: below", ReadTest::byteTooSmall);
+        Checks.test("if there is no such byte: above", ReadTest::byteTooLarge);
+        Checks.test("if there is no such byte: none at all", ReadTest::empty);
+        Checks.test("if there is no such byte: the 0 that fills a block up", ReadTest::filledUp);
+        Checks.test("if its cluster is bad", ReadTest::badCluster);
+        Checks.test("if its cluster is bad: others are not", ReadTest::otherClusters);
+        Checks.test("the first of these: nothing is mounted, no such inode", ReadTest::mountFirst);
+        Checks.test("the first of these: no such inode, no such byte", ReadTest::inodeFirst);
+        Checks.test("the first of these: it is bad, no such byte", ReadTest::badFirst);
+        Checks.test("the first of these: no such byte, its cluster is bad", ReadTest::byteFirst);
         Checks.end();
     }
 
@@ -13,118 +33,216 @@ public final class ReadTest {
         String[] contents = {"", "x", "abcd", "abcde", Images.unlike(16, 1), Images.unlike(28, 1),
             Images.unlike(29, 1), Images.unlike(60, 1), "ab".repeat(30), "abcabcd".repeat(8), "\0".repeat(60)};
         for (int flags = 0; flags < 8; flags++) {
-            PackedImage x = new PackedImage();
-            for (int i = 0; i < contents.length; i++) {
-                Images.file(x, 0, (char) ('a' + i), contents[i]);
+            for (String content : contents) {
+                PackedImage x = Images.mountedFile(content, flags);
+                Checks.sameText("with flags " + flags, Images.data(x, 1), content);
+                Checks.same("check with flags " + flags, x.check(), -1);
             }
-            x.build(flags);
-            x.mount();
-            for (int i = 0; i < contents.length; i++) {
-                int inode = x.find(0, (char) ('a' + i));
-                Checks.sameText("file " + i + " with flags " + flags, Images.data(x, inode), contents[i]);
-            }
-            Checks.same("check with flags " + flags, x.check(), -1);
         }
     }
 
-    private static void allKinds() {
+    private static void ofDirectory() {
+        PackedImage x = Images.mountedFile("", 0);
+        Checks.sameText("its entries", Images.data(x, 0), "f\1\1");
+    }
+
+    private static void ofLink() {
         PackedImage x = new PackedImage();
         Images.link(x, 0, 'l', "path");
         x.build(0);
         x.mount();
-        Checks.sameText("a link's path", Images.data(x, 1), "path");
-        Checks.sameText("a directory's entries", Images.data(x, 0), "l\u0001\u0002");
+        Checks.sameText("its path", Images.data(x, 1), "path");
     }
 
-    private static void wrong() {
+    private static void acrossBlocks() {
+        PackedImage x = Images.mountedFile(Images.unlike(60, 1), 0);
+        for (int at : new int[] {0, 15, 16, 31, 32, 47, 48, 59}) {
+            Checks.same("byte " + at, x.read(1, at), at + 1);
+        }
+    }
+
+    private static void acrossTail() {
+        PackedImage x = Images.mountedFile(Images.unlike(44, 1), 1);
+        Checks.same("TAILED", x.stat(1, 1), 1);
+        for (int at : new int[] {0, 15, 16, 31, 32, 43}) {
+            Checks.same("byte " + at, x.read(1, at), at + 1);
+        }
+    }
+
+    private static void acrossClusters() {
+        PackedImage x = Images.mountedFile(Images.threeClusters(), 4);
+        int[][] due = {{0, 20}, {14, 34}, {15, 40}, {29, 54}, {30, 'a'}, {59, 'a'}};
+        for (int[] row : due) {
+            Checks.same("byte " + row[0], x.read(1, row[0]), row[1]);
+        }
+    }
+
+    /** Each cluster is one literal. */
+    private static void elevenClusters() {
         PackedImage x = new PackedImage();
-        Checks.illegalState("nothing mounted comes first", () -> x.read(-1, -1));
-        Images.file(x, 0, 'f', "12345");
-        Images.file(x, 0, 'g', "");
+        Images.lay(x, 16, Images.LONG | Images.FILE | Images.PACKED, 11, 2, 1, 11, 1, 2, 3, 4, 5, 6, 7, 8, 9, 10, 11);
+        for (int i = 0; i < 11; i++) {
+            Images.lay(x, (2 + i) * 16, 0x10, 100 + i);
+        }
+        Images.header(x, 2, 13);
+        x.mount();
+        for (int i = 0; i < 11; i++) {
+            Checks.same("byte " + i, x.read(0, i), 100 + i);
+        }
+        Checks.outOfBounds("byte 11", () -> x.read(0, 11));
+        Checks.same("misses", x.cache(false), 11);
+        Checks.same("check", x.check(), -1);
+    }
+
+    private static void largest() {
+        PackedImage x = Images.inode(Images.FILE, 255, 2);
+        Images.lay(x, 32 + 253, 7, 8, 9);
+        Images.header(x, 2, 18);
+        x.mount();
+        Checks.same("byte 253", x.read(0, 253), 7);
+        Checks.same("byte 254", x.read(0, 254), 8);
+        Checks.outOfBounds("byte 255", () -> x.read(0, 255));
+    }
+
+    private static void lastOfDevice() {
+        PackedImage x = Images.inode(Images.FILE, 16, 63);
+        x.poke(1023, 77);
+        Images.header(x, 2, 64);
+        x.mount();
+        Checks.same("PLAIN", x.read(0, 15), 77);
+        PackedImage y = Images.inode(Images.LONG | Images.FILE | Images.PACKED, 15, 63, 1, 1, 15);
+        y.poke(1008, 0xF0);
+        y.poke(1023, 88);
+        Images.header(y, 2, 64);
+        y.mount();
+        Checks.same("PACKED", y.read(0, 14), 88);
+    }
+
+    private static void tailsOfAllKinds() {
+        PackedImage x = new PackedImage();
+        Images.link(x, 0, 'l', "path");
+        x.build(1);
+        x.mount();
+        Checks.sameText("the directory", Images.data(x, 0), "l\1\2");
+        Checks.sameText("the link", Images.data(x, 1), "path");
+    }
+
+    private static void notMounted() {
+        PackedImage x = Images.withFile("x");
+        Checks.illegalState("a new object", () -> x.read(0, 0));
         x.build(0);
+        Checks.illegalState("built", () -> x.read(0, 0));
         x.mount();
-        Checks.outOfBounds("inode -1", () -> x.read(-1, 0));
-        Checks.outOfBounds("inode 3", () -> x.read(3, 0));
-        Checks.outOfBounds("byte -1", () -> x.read(1, -1));
-        Checks.outOfBounds("byte 5", () -> x.read(1, 5));
-        Checks.outOfBounds("at the edge of int", () -> x.read(1, Integer.MAX_VALUE));
-        Checks.outOfBounds("a byte of an empty file", () -> x.read(2, 0));
-        Checks.same("the last byte", x.read(1, 4), '5');
-        PackedImage y = StatTest.inode(3 << 1, 3, 2);
-        Checks.illegalState("a bad inode", () -> y.read(0, 0));
-        Checks.illegalState("a bad inode comes before the byte", () -> y.read(0, 99));
-        Checks.outOfBounds("no inode comes before it", () -> y.read(9, 0));
+        Checks.same("mounted", x.read(1, 0), 'x');
+        x.poke(1000, 0);
+        Checks.illegalState("poked", () -> x.read(1, 0));
     }
 
-    /** A file of one cluster, these bytes, and so many to be unpacked. */
-    private static PackedImage cluster(int size, int... bytes) {
+    private static void noInode() {
+        PackedImage x = Images.mountedFile("x", 0);
+        Checks.outOfBounds("-1", () -> x.read(-1, 0));
+        Checks.outOfBounds("2", () -> x.read(2, 0));
+        Checks.outOfBounds("126", () -> x.read(126, 0));
+        Checks.outOfBounds("the largest int", () -> x.read(Integer.MAX_VALUE, 0));
+        Checks.outOfBounds("the least int", () -> x.read(Integer.MIN_VALUE, 0));
+    }
+
+    private static void secondSlot() {
+        PackedImage x = Images.mountedFile("a".repeat(40), 4);
+        Checks.outOfBounds("2", () -> x.read(2, 0));
+        Checks.same("misses", x.cache(false), 0);
+    }
+
+    private static void badInode() {
+        Checks.illegalState("kind 3", () -> Images.inode(Images.KIND_3, 3, 2).read(0, 0));
+        Checks.illegalState("a directory of 4 bytes", () -> Images.inode(0, 4, 2).read(0, 0));
+        Checks.illegalState("a block that is not used", () -> Images.inode(Images.FILE, 17, 7).read(0, 0));
+        PackedImage x = Images.inode(Images.LONG | Images.FILE | Images.PACKED, 6, 2, 1, 1, 5);
+        Checks.illegalState("the last end is not the size", () -> x.read(0, 0));
+        Checks.same("its cluster is not used", x.cache(false), 0);
+    }
+
+    private static void byteTooSmall() {
+        PackedImage x = Images.mountedFile("12345", 0);
+        Checks.outOfBounds("-1", () -> x.read(1, -1));
+        Checks.outOfBounds("the least int", () -> x.read(1, Integer.MIN_VALUE));
+        Checks.same("0", x.read(1, 0), '1');
+        PackedImage y = Images.mountedFile("a".repeat(40), 4);
+        Checks.outOfBounds("-1 of a PACKED one", () -> y.read(1, -1));
+        PackedImage z = Images.mountedFile("12345", 1);
+        Checks.outOfBounds("-1 of a TAILED one", () -> z.read(1, -1));
+    }
+
+    private static void byteTooLarge() {
+        for (int flags = 0; flags < 8; flags++) {
+            for (int size : new int[] {1, 5, 15, 16, 17, 40, 60}) {
+                PackedImage x = Images.mountedFile("a".repeat(size), flags);
+                Checks.same("the last byte", x.read(1, size - 1), 'a');
+                Checks.outOfBounds("one more than " + size + ", flags " + flags, () -> x.read(1, size));
+                Checks.outOfBounds("the largest int", () -> x.read(1, Integer.MAX_VALUE));
+            }
+        }
+    }
+
+    private static void empty() {
+        PackedImage x = Images.mountedFile("", 0);
+        Checks.outOfBounds("an empty file", () -> x.read(1, 0));
+        PackedImage y = new PackedImage();
+        y.build(0);
+        y.mount();
+        Checks.outOfBounds("an empty root", () -> y.read(0, 0));
+    }
+
+    private static void filledUp() {
+        PackedImage x = Images.mountedFile("abc", 0);
+        Checks.outOfBounds("in a block", () -> x.read(1, 3));
+        PackedImage y = Images.mountedFile("abc", 1);
+        Checks.outOfBounds("in the rest", () -> y.read(1, 3));
+    }
+
+    private static void badCluster() {
+        PackedImage x = Images.cluster(4, 0x11, 'a', 2);
+        Checks.illegalState("its first byte", () -> x.read(0, 0));
+        Checks.illegalState("its last byte", () -> x.read(0, 3));
+        Checks.same("the inode is not bad", x.stat(0, 5), 0);
+    }
+
+    private static void otherClusters() {
+        PackedImage x = Images.withFile(Images.threeClusters());
+        x.build(4);
+        x.poke(5 * 16, 0);
+        x.mount();
+        Checks.same("the last byte of the one before", x.read(1, 14), 34);
+        Checks.illegalState("the first byte", () -> x.read(1, 15));
+        Checks.illegalState("the last byte", () -> x.read(1, 29));
+        Checks.same("the first byte of the one behind", x.read(1, 30), 'a');
+    }
+
+    private static void mountFirst() {
         PackedImage x = new PackedImage();
-        Images.lay(x, 16, 1 | 1 << 1 | 2 << 3, size, 2, 1, 1, size);
-        Images.lay(x, 32, bytes);
-        // What a token, a literal or D would find behind the block is right by itself.
-        Images.lay(x, 48, 1, 1, 1, 1, 1, 1, 1, 1, 1, 1, 1, 1, 1, 1, 1, 1);
-        Images.header(x, 2, 4);
-        x.mount();
-        return x;
+        Checks.illegalState("inode -1", () -> x.read(-1, 0));
+        Checks.illegalState("inode 999", () -> x.read(999, -1));
     }
 
-    private static void good(String what, String data, int... bytes) {
-        PackedImage x = cluster(data.length(), bytes);
-        Checks.sameText(what, Checks.outcome(() -> Images.data(x, 0)), data);
-        Checks.same(what + ", by check", x.check(), -1);
+    private static void inodeFirst() {
+        PackedImage x = Images.mountedFile("x", 0);
+        Checks.outOfBounds("inode 2, byte -1", () -> x.read(2, -1));
+        PackedImage y = Images.inode(Images.KIND_3, 3, 2);
+        Checks.outOfBounds("beside a bad one", () -> y.read(2, 0));
     }
 
-    private static void bad(String what, int size, int... bytes) {
-        PackedImage x = cluster(size, bytes);
-        Checks.illegalState(what, () -> x.read(0, 0));
-        Checks.illegalState(what + ", the last byte", () -> x.read(0, size - 1));
-        Checks.outOfBounds(what + ", no byte", () -> x.read(0, size));
-        Checks.same(what + ", by check", x.check(), 0);
+    private static void badFirst() {
+        PackedImage x = Images.inode(Images.KIND_3, 3, 2);
+        Checks.illegalState("byte 3", () -> x.read(0, 3));
+        Checks.illegalState("byte -1", () -> x.read(0, -1));
     }
 
-    private static void goodClusters() {
-        good("literals", "abc", 0x30, 'a', 'b', 'c');
-        good("a match that overlaps", "abababab", 0x24, 'a', 'b', 2);
-        good("a token of a match alone", "aaaaaa", 0x10, 'a', 0x03, 1);
-        good("the longest match", "a" + "a".repeat(17), 0x1F, 'a', 1);
-        good("literals beyond the data", "ab", 0xF0, 'a', 'b');
-        good("D beyond the data, which is 0", "ab", 0x2F, 'a', 'b', 0);
-        good("a match beyond the data", "aaaa", 0x1F, 'a', 1);
-        good("tokens beyond the data", "a", 0x10, 'a', 0, 0);
-        good("a whole block", "abcdefghijklmno",
-                0xF0, 'a', 'b', 'c', 'd', 'e', 'f', 'g', 'h', 'i', 'j', 'k', 'l', 'm', 'n', 'o');
-        good("D in the last byte", "abcdefghijklmn" + "abc",
-                0xE1, 'a', 'b', 'c', 'd', 'e', 'f', 'g', 'h', 'i', 'j', 'k', 'l', 'm', 'n', 14);
-        good("D would lie behind the block and the data", "abcdefghijklmno",
-                0xFF, 'a', 'b', 'c', 'd', 'e', 'f', 'g', 'h', 'i', 'j', 'k', 'l', 'm', 'n', 'o');
-        good("D as large as there are bytes", "abcabc", 0x31, 'a', 'b', 'c', 3);
-        good("many bytes", "a".repeat(1 + 17 * 7), 0x1F, 'a', 1, 15, 1, 15, 1, 15, 1, 15, 1, 15, 1, 15, 1);
-    }
-
-    private static void badClusters() {
-        bad("a token 0", 1, 0);
-        bad("a token 0 later", 3, 0x20, 'a', 'b', 0);
-        bad("a token 0 with more behind it", 3, 0x20, 'a', 'b', 0, 0x10, 'c');
-        bad("D is 0", 4, 0x11, 'a', 0);
-        bad("D is more than the bytes there", 4, 0x11, 'a', 2);
-        bad("D is 0, with more behind it", 4, 0x11, 'a', 0, 0x30, 'b', 'c', 'd');
-        bad("a match at the beginning", 3, 0x01, 1);
-        bad("a literal behind the block", 16, 0xE0, 1, 2, 3, 4, 5, 6, 7, 8, 9, 10, 11, 12, 13, 14, 0x20);
-        bad("a literal behind the block, of a token with a match", 16,
-                0xD0, 1, 2, 3, 4, 5, 6, 7, 8, 9, 10, 11, 12, 13, 0x21, 1);
-        bad("a literal behind the block, with what could be a token before it", 15,
-                0xC0, 1, 2, 3, 4, 5, 6, 7, 8, 9, 10, 11, 12, 0x30, 0x01, 1);
-        bad("a token behind the block", 16, 0xF0, 1, 2, 3, 4, 5, 6, 7, 8, 9, 10, 11, 12, 13, 14, 15);
-        bad("D behind the block", 16, 0xF1, 1, 2, 3, 4, 5, 6, 7, 8, 9, 10, 11, 12, 13, 14, 15);
-        bad("a token of a match in the last byte", 15,
-                0xE0, 1, 2, 3, 4, 5, 6, 7, 8, 9, 10, 11, 12, 13, 14, 0x01);
-        bad("too many bytes for a block", 255, 0x1F, 'a', 1, 15, 1, 15, 1, 15, 1, 15, 1, 15, 1, 15, 1);
-        PackedImage x = cluster(4, 0x11, 'a', 2);
-        x.poke(18, 63);
-        x.poke(4, 64);
-        Images.lay(x, 1008, 0xF0, 1, 2, 3, 4);
-        x.seal();
-        x.mount();
-        Checks.same("a cluster in the last block", x.read(0, 3), 4);
+    private static void byteFirst() {
+        PackedImage x = Images.cluster(4, 0);
+        Checks.outOfBounds("byte 4", () -> x.read(0, 4));
+        Checks.outOfBounds("byte -1", () -> x.read(0, -1));
+        Checks.same("its cluster is not used", x.cache(false), 0);
+        Checks.illegalState("byte 3", () -> x.read(0, 3));
+        Checks.same("it is now", x.cache(false), 1);
     }
 }
