@@ -1,9 +1,10 @@
 /** Counts what is not as due in one test program, and ends it. */
 final class Checks {
+    private static final long MOST_MILLISECONDS = 300_000;
     private static int tests = 0;
     private static int done = 0;
     private static int wrong = 0;
-    private static String told = "";
+    private static volatile String told = "";
 
     /** A call of the program, with or without an answer. */
     interface Call {
@@ -15,7 +16,24 @@ final class Checks {
         void make();
     }
 
+    static {
+        // A call that fails to end has to fail the test, not to hold it up.
+        Thread watch = new Thread(Checks::endLate);
+        watch.setDaemon(true);
+        watch.start();
+    }
+
     private Checks() {
+    }
+
+    private static void endLate() {
+        try {
+            Thread.sleep(MOST_MILLISECONDS);
+        } catch (InterruptedException e) {
+            return;
+        }
+        System.out.println(told + "it does not end");
+        Runtime.getRuntime().halt(1);
     }
 
     /** A test of its own, for a sentence of the document: if it breaks off, those behind it go on all the same. */

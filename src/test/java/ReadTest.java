@@ -9,6 +9,7 @@ public final class ReadTest {
         Checks.test("a byte of its data: the last one of a cluster and the first one of the next",
                 ReadTest::acrossClusters);
         Checks.test("a byte of its data: 11 clusters", ReadTest::elevenClusters);
+        Checks.test("a byte of its data: of inode 118", ReadTest::largeNumber);
         Checks.test("a byte of its data: byte 254", ReadTest::largest);
         Checks.test("a byte of its data: the last byte of the device", ReadTest::lastOfDevice);
         Checks.test("a byte of its data: a TAILED directory and link", ReadTest::tailsOfAllKinds);
@@ -91,6 +92,21 @@ public final class ReadTest {
         }
         Checks.outOfBounds("byte 11", () -> x.read(0, 11));
         Checks.same("misses", x.cache(false), 11);
+        Checks.same("check", x.check(), -1);
+    }
+
+    /** 120 slots, blocks 1 .. 60: three clusters in the last three blocks. */
+    private static void largeNumber() {
+        PackedImage x = new PackedImage();
+        Images.lay(x, 16 + 118 * 8, Images.LONG | Images.FILE | Images.PACKED, 6, 61, 1, 3, 1, 3, 6);
+        Images.lay(x, 61 * 16, 0x10, 'a');
+        Images.lay(x, 62 * 16, 0x20, 'b', 'c');
+        Images.lay(x, 63 * 16, 0x30, 'd', 'e', 'f');
+        Images.header(x, 120, 64);
+        Checks.same("inodes", x.mount(), 119);
+        Checks.sameText("its data", Images.data(x, 118), "abcdef");
+        Checks.same("misses", x.cache(false), 3);
+        Checks.outOfBounds("its second slot", () -> x.read(119, 0));
         Checks.same("check", x.check(), -1);
     }
 

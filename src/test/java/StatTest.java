@@ -20,6 +20,7 @@ public final class StatTest {
         Checks.test("if there is no such inode, nor such a what", StatTest::neither);
         Checks.test("BAD: its kind is 3", StatTest::kind3);
         Checks.test("BAD: its layout is 3", StatTest::layout3);
+        Checks.test("an inode takes one slot or two: PLAIN and TAILED either", StatTest::eitherLength);
         Checks.test("bits 5 .. 7 of byte 0 say nothing", StatTest::otherBits);
         Checks.test("BAD: PACKED and no long file: short", () -> bad("short", FILE | Images.PACKED, 1, 2, 1, 1, 1));
         Checks.test("BAD: PACKED and no long file: a directory",
@@ -156,6 +157,14 @@ public final class StatTest {
         bad("a file", FILE | Images.LAYOUT_3, 3, 2);
         bad("a long file", PACKED | Images.LAYOUT_3, 5, 2, 1, 1, 5);
         bad("a link", Images.LINK | Images.LAYOUT_3);
+    }
+
+    private static void eitherLength() {
+        good("a long PLAIN file", Images.LONG | FILE, 16, 2);
+        good("a long PLAIN directory", Images.LONG, 3, 2);
+        good("a long PLAIN link", Images.LONG | Images.LINK, 4, 2);
+        good("a long TAILED one with a tail of 1", Images.LONG | TAILED, 1);
+        good("a short TAILED one with a tail of 1", TAILED, 1);
     }
 
     private static void otherBits() {
