@@ -4,10 +4,9 @@ public final class ReadTest {
         Checks.test("a byte of its data: all layouts", ReadTest::layouts);
         Checks.test("a byte of its data: of a directory", ReadTest::ofDirectory);
         Checks.test("a byte of its data: of a link", ReadTest::ofLink);
-        Checks.test("a byte of its data: the last one of a block and the first one of the next", ReadTest::acrossBlocks);
-        Checks.test("a byte of its data: the last one of a block and the first one of the tail", ReadTest::acrossTail);
-        Checks.test("a byte of its data: the last one of a cluster and the first one of the next",
-                ReadTest::acrossClusters);
+        Checks.test("a byte of its data: at the edges of blocks", ReadTest::acrossBlocks);
+        Checks.test("a byte of its data: at the edges of the tail", ReadTest::acrossTail);
+        Checks.test("a byte of its data: at the edges of clusters", ReadTest::acrossClusters);
         Checks.test("a byte of its data: 11 clusters", ReadTest::elevenClusters);
         Checks.test("a byte of its data: of inode 118", ReadTest::largeNumber);
         Checks.test("a byte of its data: byte 254", ReadTest::largest);
